@@ -99,6 +99,13 @@ public final class CodesTest {
         x.ahead(0, 1);
         Check.due("two before", 2, () -> x.things(2));
         Check.due("nothing is told then", 2, () -> x.orders());
+        for (int last = 0; last < 5; last++) {
+            Queryschool y = new Queryschool();
+            y.things(5);
+            y.ahead((last + 1) % 5, last);
+            y.things(5);
+            Check.due("nothing is ahead of " + last + " then", 120, () -> y.orders());
+        }
     }
 
     private static void promise41() {

@@ -64,6 +64,10 @@ public final class ConceptsTest {
         Check.due("conflicts are gone", 0, () -> x.conflicts(0));
         Check.due("there was no teacher", false, () -> x.teach('h', 0, 0));
         Check.due("z stays", 7 * 48271, () -> x.seed(1));
+        x.points(3);
+        x.concept(0);
+        Check.due("nothing of the concepts before", '-', () -> x.sure(0));
+        Check.due("nothing of the concepts before", '-', () -> x.sure(2));
     }
 
     private static void promise3() {

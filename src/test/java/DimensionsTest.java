@@ -86,6 +86,8 @@ public final class DimensionsTest {
         Check.due("one concept", 0, () -> of(3).depth());
         Check.due("two concepts", 1, () -> of(3, 12).depth());
         Check.due("seven thresholds", 3, () -> family(6, 't').depth());
+        Check.due("two that differ at one point", 1, () -> of(1, 0).depth());
+        Check.due("two that differ at one point", 1, () -> of(0, 1).depth());
         Check.due("four thresholds", 2, () -> family(3, 't').depth());
         Check.due("seven single ones", 6, () -> family(6, 's').depth());
         Check.due("the cube", 4, () -> cube(4).depth());
@@ -97,6 +99,8 @@ public final class DimensionsTest {
         Check.due("without concepts", 0, () -> new Queryschool().mistakes());
         Check.due("one concept", 0, () -> of(3).mistakes());
         Check.due("two concepts", 1, () -> of(3, 12).mistakes());
+        Check.due("two that differ at one point", 1, () -> of(1, 0).mistakes());
+        Check.due("two that differ at one point", 1, () -> of(0, 1).mistakes());
         Check.due("three concepts", 1, () -> of(0, 1, 3).mistakes());
         Check.due("four thresholds", 2, () -> family(3, 't').mistakes());
         Check.due("seven thresholds", 2, () -> family(6, 't').mistakes());

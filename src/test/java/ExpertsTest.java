@@ -47,6 +47,16 @@ public final class ExpertsTest {
         Check.due("of like ones in", true, () -> y.round(1, true));
         Check.due("all out", false, () -> y.round(0, false));
         Check.due("all in", true, () -> y.round(3, true));
+        Queryschool z = of(2);
+        for (int i = 0; i < 9; i++) {
+            z.round(0, true);
+        }
+        z.round(2, true);
+        Check.due("down to 1", 1, () -> z.weight(0));
+        Check.due("down to 2", 2, () -> z.weight(1));
+        Check.due("1 against 2", false, () -> z.round(1, false));
+        Check.due("1 against 2, though wrong", 1, () -> z.weight(0));
+        Check.due("2 against 1", true, () -> z.round(2, true));
     }
 
     private static void promise25Wrong() {
@@ -90,6 +100,12 @@ public final class ExpertsTest {
         Check.due("all wrong", 1, () -> x.regret());
         x.round(0, false);
         Check.due("all right", 1, () -> x.regret());
+        for (int best = 0; best < 6; best++) {
+            Queryschool six = of(6);
+            six.round(1 << best, true);
+            six.round(1 << best, true);
+            Check.due("the one that was right: " + best, 2, () -> six.regret());
+        }
         Queryschool y = of(3);
         y.round(6, true);
         y.round(5, true);

@@ -179,6 +179,11 @@ public final class MachinesTest {
         Check.due("a word in is not accepted", false, () -> x.fits());
         x.go(1, 'a', 0);
         Check.due("accepted now", true, () -> x.fits());
+        Queryschool first = of(false);
+        first.sample(0, 0, true);
+        Check.due("the first word", false, () -> first.fits());
+        first.sample(1, 0, false);
+        Check.due("the first word still", false, () -> first.fits());
     }
 
     private static void promise35() {
@@ -198,6 +203,18 @@ public final class MachinesTest {
         Check.due("two still: b leads back and forth", 2, () -> x.fewest());
         x.sample(2, 3, false);
         Check.due("three: bb is out, too", 3, () -> x.fewest());
+        Queryschool other = new Queryschool();
+        other.sample(0, 0, true);
+        other.sample(1, 0, true);
+        other.sample(1, 1, false);
+        Check.due("a keeps, b does not", 2, () -> other.fewest());
+        Queryschool once = new Queryschool();
+        once.sample(0, 0, false);
+        once.sample(1, 1, true);
+        for (int length = 2; length <= 8; length++) {
+            once.sample(length, (1 << length) - 1, false);
+        }
+        Check.due("b once alone", 3, () -> once.fewest());
         Queryschool all = new Queryschool();
         all.sample(5, 3, false);
         all.sample(4, 3, false);

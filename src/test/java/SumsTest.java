@@ -75,6 +75,15 @@ public final class SumsTest {
         x.points(6);
         x.family('i');
         Check.due("a family", true, () -> x.isSound());
+        Queryschool cube = new Queryschool();
+        cube.points(4);
+        cube.family('p');
+        cube.concept(1);
+        Check.due("as many mistakes as points", 4, () -> cube.depth());
+        cube.points(1);
+        cube.family('t');
+        Check.due("all three are one", 3, () -> cube.dimension() + cube.mistakes() + cube.depth());
+        Check.due("alike is sound", true, () -> cube.isSound());
         x.teach('l', 21, 2);
         x.learn();
         x.equal(5);

@@ -5,6 +5,7 @@ public final class TeacherTest {
         promise6Forgets();
         promise7();
         promise8Honest();
+        promise8Draws();
         promise8Lying();
         promise8Keeping();
         promise8Wrong();
@@ -110,6 +111,25 @@ public final class TeacherTest {
         Check.due("1 has three against it", 3, () -> x.conflicts(1));
         Check.due("7 has three against it", 3, () -> x.conflicts(3));
         Check.due("10 has none", 0, () -> x.conflicts(4));
+    }
+
+    private static void promise8Draws() {
+        int[] seeds = {1, 2, 3, 5, 6, 44, 1000, 99999, 48271, 2147483645, 2147483646};
+        for (int seed : seeds) {
+            Queryschool x = of(0, 1);
+            x.teach('l', 1, 1);
+            x.seed(seed);
+            long z = seed;
+            boolean hasLied = false;
+            for (int i = 0; i < 12; i++) {
+                z = hasLied ? z : z * 48271 % 2147483647;
+                boolean lies = !hasLied && z % 3 == 0;
+                Check.due("seed " + seed + ", ask " + i, !lies, () -> x.ask(0));
+                hasLied = hasLied || lies;
+            }
+            long last = z;
+            Check.due("z after seed " + seed, last, () -> x.seed(1));
+        }
     }
 
     private static void promise8Lying() {
