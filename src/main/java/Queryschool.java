@@ -809,15 +809,16 @@ public final class Queryschool {
         }
 
         int leastDepth(Concepts known) {
-            for (int each = fillGroups(known) - 1; each >= 0; each--) {
-                put(worths, each, isSettled(each) ? 0 : depthFrom(each));
-            }
-            return at(worths, 0);
+            return worthOfAll(known, false);
         }
 
         int forcedMistakes(Concepts known) {
+            return worthOfAll(known, true);
+        }
+
+        private int worthOfAll(Concepts known, boolean isContrary) {
             for (int each = fillGroups(known) - 1; each >= 0; each--) {
-                put(worths, each, isSettled(each) ? 0 : mistakesFrom(each));
+                put(worths, each, isSettled(each) ? 0 : worthFrom(each, isContrary));
             }
             return at(worths, 0);
         }
@@ -845,37 +846,23 @@ public final class Queryschool {
             return at(groups, in) != 0 && at(groups, out) != 0;
         }
 
-        // All points together always tell unlike concepts apart.
-        private int depthFrom(int each) {
-            int least = points;
+        // All points together always tell unlike concepts apart: no depth is greater than they are many.
+        private int worthFrom(int each, boolean isContrary) {
+            int worth = isContrary ? 0 : points;
             int told = each;
             int power = 1;
             for (int point = 0; point < points; point++) {
                 int in = each + power;
                 int out = in + power;
                 if (told % 3 == 0 && splits(in, out)) {
-                    least = Math.min(least, 1 + Math.max(at(worths, in), at(worths, out)));
+                    int less = Math.min(at(worths, in), at(worths, out));
+                    int more = Math.max(at(worths, in), at(worths, out));
+                    worth = isContrary ? Math.max(worth, 1 + less) : Math.min(worth, 1 + more);
                 }
                 told /= 3;
                 power *= 3;
             }
-            return least;
-        }
-
-        private int mistakesFrom(int each) {
-            int greatest = 0;
-            int told = each;
-            int power = 1;
-            for (int point = 0; point < points; point++) {
-                int in = each + power;
-                int out = in + power;
-                if (told % 3 == 0 && splits(in, out)) {
-                    greatest = Math.max(greatest, 1 + Math.min(at(worths, in), at(worths, out)));
-                }
-                told /= 3;
-                power *= 3;
-            }
-            return greatest;
+            return worth;
         }
     }
 

@@ -64,10 +64,15 @@ public final class ConceptsTest {
         Check.due("conflicts are gone", 0, () -> x.conflicts(0));
         Check.due("there was no teacher", false, () -> x.teach('h', 0, 0));
         Check.due("z stays", 7 * 48271, () -> x.seed(1));
-        x.points(3);
-        x.concept(0);
-        Check.due("nothing of the concepts before", '-', () -> x.sure(0));
-        Check.due("nothing of the concepts before", '-', () -> x.sure(2));
+        Queryschool y = new Queryschool();
+        y.points(6);
+        y.concept(63);
+        y.points(6);
+        y.concept(0);
+        for (int point = 0; point < 6; point++) {
+            int own = point;
+            Check.due("nothing of the concept before at " + point, '-', () -> y.sure(own));
+        }
     }
 
     private static void promise3() {
