@@ -518,7 +518,7 @@ public final class Queryschool {
         }
 
         int lacking(int point) {
-            return everyone() & ~holding(point);
+            return everyone() & ~at(holders, point);
         }
 
         int agreeing(int set, int point) {

@@ -6,8 +6,14 @@ final class Check {
 
     private static int checked = 0;
     private static int wrong = 0;
+    private static String heading = "";
 
     private Check() {
+    }
+
+    /** What is told ahead of each wrong answer from now on. */
+    static void under(String newHeading) {
+        heading = newHeading + ": ";
     }
 
     /** The answer as a text, or the simple name of what was thrown. */
@@ -24,7 +30,7 @@ final class Check {
         String got = outcome(call);
         if (!got.equals(String.valueOf(due))) {
             wrong++;
-            System.out.println(what + ": answered " + got + ", due is " + due);
+            System.out.println(heading + what + ": answered " + got + ", due is " + due);
         }
     }
 
